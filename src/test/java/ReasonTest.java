@@ -7,6 +7,7 @@ public final class ReasonTest {
         everyKindInItsOrder();
         bothSidesOfABuildUserCount();
         reasonsInACircleCount();
+        weakTurnsAreReasonsWhereTheUserIsLive();
         usersOfAnotherPlatformGiveNoReason();
         reasonsStayAsTheyWere();
         wrongArguments();
@@ -81,6 +82,22 @@ public final class ReasonTest {
         x.run(0);
         dueReasons(x, 0, 0, 0, 0, 3, 0);
         dueReasons(x, 1, 0, 3, 2, 3, 4);
+    }
+
+    private static void weakTurnsAreReasonsWhereTheUserIsLive() {
+        FeatureUnions x = new FeatureUnions();
+        x.pack(false);
+        x.feature(0, 0, true, 0);
+        x.feature(0, 1, true, 0);
+        x.root(0, true);
+        x.user(0, 0, false, false, true, 255);
+        x.turn(1, 3, 0, 0);
+        x.run(0);
+        dueReasons(x, 0, 0, 0, 0);
+        x.turn(0, 1, 0, 0);
+        dueReasons(x, 0, 0, 0, 0);
+        x.run(0);
+        dueReasons(x, 0, 0, 0, 0, 5, 0);
     }
 
     private static void usersOfAnotherPlatformGiveNoReason() {

@@ -12,6 +12,7 @@ public final class RunTest {
         askedAndDefaultFeaturesAreOn();
         turnsOfEachKind();
         weakTurnsWaitForTheirUser();
+        weakTurnsWaitForTheirFeature();
         featuresCrossSidesUnlessApart();
         circlesDoNotHoldThemselves();
         theLeastStageCounts();
@@ -178,6 +179,22 @@ public final class RunTest {
         CHECK.due("run with the user", x.run(0), 5);
         CHECK.due("the user is live later than the feature is on", x.live(1, 0), 4);
         CHECK.due("and the weak turn after both", x.on(2, 0), 5);
+    }
+
+    private static void weakTurnsWaitForTheirFeature() {
+        FeatureUnions x = packs(2);
+        x.feature(0, 0, false, 0);
+        x.feature(1, 0, false, 0);
+        x.user(0, 1, false, true, false, 255);
+        x.user(0, 0, false, false, false, 255);
+        x.turn(0, 3, 0, 0);
+        CHECK.due("run without the feature", x.run(0), 3);
+        CHECK.due("a live user alone turns nothing on", x.on(1, 1), 0);
+        x.asks(1, 0);
+        CHECK.due("run with the feature", x.run(0), 4);
+        CHECK.due("the feature is on later than the user is live", x.on(0, 0) - x.live(0, 0), 1);
+        CHECK.due("and the weak turn after both, on the far side", x.on(1, 1), 4);
+        CHECK.due("and not on the near side", x.on(1, 0), 0);
     }
 
     private static void featuresCrossSidesUnlessApart() {
