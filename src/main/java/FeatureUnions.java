@@ -138,7 +138,8 @@ public final class FeatureUnions {
         int target = NONE;
         if (kind != TURN_USER) {
             target = features.find(through == NONE ? owner : users.to[through], name);
-            if (target == NONE) {
+            // Only KIND 0 wants ANOTHER feature: through a user a feature may reach itself elsewhere.
+            if (target == NONE || kind == TURN_FEATURE && target == feature) {
                 return NONE;
             }
         }

@@ -106,6 +106,9 @@ final class Model {
         if (kind != 1 && other < 0) {
             return -1;
         }
+        if (kind == 0 && features.get(feature).name == name) {
+            return -1;
+        }
         turns.add(new Turn(feature, kind, user, other));
         changed = true;
         return turns.size() - 1;

@@ -42,7 +42,7 @@ public final class ReasonTest {
         x.turn(1, 3, 1, 4);
         x.turn(1, 2, 3, 4);
         x.turn(1, 0, 0, 4);
-        x.turn(0, 0, 0, 4);
+        x.turn(1, 0, 0, 4);
         return x;
     }
 
@@ -121,6 +121,7 @@ public final class ReasonTest {
         x.pack(false);
         x.feature(0, 0, true, 0);
         x.feature(1, 0, true, 0);
+        x.feature(1, 1, true, 0);
         x.root(0, true);
         x.user(0, 1, true, false, false, 255);
         x.run(0);
@@ -128,16 +129,16 @@ public final class ReasonTest {
         x.asks(0, 0);
         x.user(0, 1, true, false, false, 255);
         x.turn(0, 2, 0, 0);
-        x.turn(1, 0, 0, 0);
+        x.turn(2, 0, 0, 0);
         x.root(1, true);
         x.feature(0, 1, true, 0);
         x.run(-1);
         dueReasons(x, 1, 0, 2, 0);
-        CHECK.due("a feature that came since", x.reasons(2, 0), 0);
-        CHECK.due("its reason", x.reason(2, 0, 0, 0), NONE);
+        CHECK.due("a feature that came since", x.reasons(3, 0), 0);
+        CHECK.due("its reason", x.reason(3, 0, 0, 0), NONE);
         x.run(0);
         dueReasons(x, 1, 0, 0, 1, 1, 0, 2, 0, 2, 2, 3, 2, 4, 0);
-        dueReasons(x, 2, 0, 0, 0);
+        dueReasons(x, 3, 0, 0, 0);
     }
 
     private static void wrongArguments() {

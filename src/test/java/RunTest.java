@@ -225,9 +225,10 @@ public final class RunTest {
         x.feature(0, 1, false, 0);
         x.turn(0, 0, 0, 1);
         x.turn(1, 0, 0, 0);
-        x.turn(0, 0, 0, 0);
         x.user(1, 2, false, false, false, 255);
         x.user(2, 1, false, false, false, 255);
+        x.user(0, 0, false, false, true, 255);
+        x.turn(0, 2, 2, 0);
         CHECK.due("run", x.run(0), 1);
         CHECK.due("features of a circle", x.on(0, 0) + x.on(1, 0), 0);
         CHECK.due("packs of a circle", x.there(1, 0) + x.there(2, 0), 0);

@@ -168,7 +168,10 @@ public final class TellingTest {
         CHECK.due("kind 0, no such user means nothing", x.turn(1, 0, -7, 3), 1);
         CHECK.due("kind 0, another pack's user means nothing", x.turn(0, 0, 2, 4), 2);
         CHECK.due("kind 0, the same again", x.turn(0, 0, 2, 4), 3);
-        CHECK.due("kind 0, the feature itself", x.turn(0, 0, 0, 3), 4);
+        CHECK.due("kind 0, the feature itself", x.turn(0, 0, 0, 3), NONE);
+        CHECK.due("kind 0, another feature itself", x.turn(1, 0, 3, 4), NONE);
+        CHECK.due("kind 0, the only feature of a pack itself", x.turn(2, 0, 0, 6), NONE);
+        CHECK.due("kind 0, the refused ones took no number", x.turn(1, 0, 0, 3), 4);
     }
 
     private static void turnsOfKind1() {
@@ -181,6 +184,7 @@ public final class TellingTest {
         CHECK.due("kind 1", x.turn(0, 1, 1, 6), 0);
         CHECK.due("kind 1, no such name means nothing", x.turn(0, 1, 1, -9), 1);
         CHECK.due("kind 1, of pack 1", x.turn(2, 1, 2, 99), 2);
+        CHECK.due("kind 1, the feature's own name means nothing", x.turn(0, 1, 1, 3), 3);
     }
 
     private static void turnsOfKinds2And3() {
@@ -196,7 +200,8 @@ public final class TellingTest {
             }
             CHECK.due(of + "a user that isn't optional", x.turn(0, kind, 0, 6), 0);
             CHECK.due(of + "an optional user", x.turn(0, kind, 1, 6), 1);
-            CHECK.due(of + "a user of its own pack", x.turn(0, kind, 3, 3), 2);
+            CHECK.due(of + "a user of its own pack", x.turn(0, kind, 3, 4), 2);
+            CHECK.due(of + "the feature itself, through that user", x.turn(0, kind, 3, 3), 3);
         }
     }
 

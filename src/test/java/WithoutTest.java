@@ -110,6 +110,7 @@ public final class WithoutTest {
         x.asks(0, 9);
         x.asks(9, 0);
         x.turn(1, 1, 0, 0);
+        x.turn(1, 0, 0, 0);
         x.run(8);
         CHECK.due("without after refused calls", x.without(0, 0), 3);
     }
