@@ -25,6 +25,8 @@ public final class ReasonEdgesTest {
         theMostReasons();
         theGreatestNumbersOfEachKind();
         aFeatureMayBeItsOwnReason();
+        turnsOfWhatIsNotOnAreNoReasons();
+        turnsOfWhatIsOnElsewhereAreNoReasons();
     }
 
     /** Pack 0 is a root with defaults, and feature 0 its default. */
@@ -232,6 +234,53 @@ public final class ReasonEdgesTest {
         dueReason(x, 0, 0, 0, 0, 0);
         dueReason(x, 0, 0, 1, 4, 0);
         dueReason(x, 0, 0, 2, 5, 2);
+    }
+
+    /** Feature 1, which isn't ON, has a turn of each kind on feature 0, which is, and its user is LIVE. */
+    private static void turnsOfWhatIsNotOnAreNoReasons() {
+        FeatureUnions x = oneDefault();
+        x.feature(0, 1, false, 0);
+        x.user(0, 0, false, false, false, ALL);
+        x.turn(1, 0, 0, 0);
+        x.turn(1, 2, 0, 0);
+        x.turn(1, 3, 0, 0);
+        x.run(0);
+        CHECK.due("feature 1 isn't ON", x.on(1, 0), 0);
+        CHECK.due("the user is LIVE", x.live(0, 0), 2);
+        CHECK.due("reasons of feature 0", x.reasons(0, 0), 1);
+        dueReason(x, 0, 0, 0, 0, 0);
+        dueReason(x, 0, 0, 1, NONE, NONE);
+        x.asks(0, 1);
+        x.run(0);
+        CHECK.due("reasons of feature 0 now", x.reasons(0, 0), 4);
+        dueReason(x, 0, 0, 1, 3, 0);
+        dueReason(x, 0, 0, 2, 4, 2);
+        dueReason(x, 0, 0, 3, 5, 4);
+    }
+
+    /** The same with feature 1 ON on run alone, seen on build, where feature 0 is asked for. */
+    private static void turnsOfWhatIsOnElsewhereAreNoReasons() {
+        FeatureUnions x = new FeatureUnions();
+        x.pack(true);
+        x.root(0, true);
+        x.feature(0, 0, false, 0);
+        x.feature(0, 1, true, 0);
+        x.user(0, 0, false, false, false, ALL);
+        x.user(0, 0, false, true, false, ALL);
+        x.asks(1, 0);
+        x.turn(1, 0, 0, 0);
+        x.turn(1, 2, 0, 0);
+        x.turn(1, 3, 0, 0);
+        x.run(0);
+        CHECK.due("feature 1 is ON on run alone", x.on(1, 0) > 0 && x.on(1, 1) == 0, true);
+        CHECK.due("the user is LIVE on both sides", x.live(0, 0) * x.live(0, 1) > 0, true);
+        CHECK.due("reasons of feature 0 on run", x.reasons(0, 0), 3);
+        dueReason(x, 0, 0, 0, 3, 0);
+        dueReason(x, 0, 0, 1, 4, 2);
+        dueReason(x, 0, 0, 2, 5, 4);
+        CHECK.due("reasons of feature 0 on build", x.reasons(0, 1), 2);
+        dueReason(x, 0, 1, 0, 1, 2);
+        dueReason(x, 0, 1, 1, 1, 3);
     }
 
     private static void promise14() {

@@ -22,6 +22,7 @@ public final class RunEdgesTest {
         theLongestChain();
         runsOfAFullObject();
         everyRowIsUsed();
+        kind1TurnsItsUserOnAlone();
     }
 
     private static void platformsAreZeroToSeven() {
@@ -175,6 +176,35 @@ public final class RunEdgesTest {
         CHECK.due("the last user on build", x.live(39, 1), 6);
         CHECK.due("the last row's reason, kind", x.reason(59, 1, 0, 0), 4);
         CHECK.due("the last row's reason, number", x.reason(59, 1, 0, 1), 118);
+    }
+
+    /** All rows are full, so that a turn without another feature could reach a neighbouring row. */
+    private static void kind1TurnsItsUserOnAlone() {
+        FeatureUnions x = Edges.packs(10);
+        for (int feature = 0; feature < 60; feature++) {
+            x.feature(feature / 6, feature % 6, feature == 0, 0);
+        }
+        for (int user = 0; user < 40; user++) {
+            x.user(0, 1, false, user == 1, true, user < 2 ? ALL : 0);
+        }
+        x.turn(0, 1, 0, 5);
+        x.turn(0, 1, 1, 5);
+        x.turn(0, 0, 0, 1);
+        x.turn(1, 1, 0, 5);
+        x.root(0, true);
+        CHECK.due("run", x.run(0), 4);
+        int above = 0;
+        for (int stage : Edges.stages(x, 10, 40, 60)) {
+            above += stage > 0 ? 1 : 0;
+        }
+        CHECK.due("the root", x.there(0, 0), 1);
+        CHECK.due("its default", x.on(0, 0), 2);
+        CHECK.due("a feature that turns on the user again", x.on(1, 0), 3);
+        CHECK.due("the user for running", x.live(0, 0), 3);
+        CHECK.due("the user for building", x.live(1, 0), 3);
+        CHECK.due("the needed pack on run", x.there(1, 0), 4);
+        CHECK.due("the needed pack on build", x.there(1, 1), 4);
+        CHECK.due("and nothing else", above, 7);
     }
 
     private static void promises9To11() {

@@ -158,16 +158,20 @@ public final class WithoutEdgesTest {
         CHECK.due("nothing left", x.left(0), NONE);
     }
 
-    /** The asked feature brings a user and a pack, which leave too but are no features. */
+    /** The asked feature brings users, the last one too, and a pack: these leave, but are no features. */
     private static void onlyFeaturesAreCounted() {
-        FeatureUnions x = Edges.packs(3);
+        FeatureUnions x = Edges.packs(10);
         x.root(0, false);
         x.feature(1, 0, false, 0);
         x.user(0, 1, false, false, false, ALL);
-        x.user(1, 2, false, false, true, ALL);
+        for (int user = 1; user < 40; user++) {
+            x.user(1, 9, false, user == 39, true, ALL);
+        }
         x.asks(0, 0);
         x.turn(0, 1, 1, 0);
+        x.turn(0, 1, 39, 0);
         CHECK.due("run", x.run(0), 5);
+        CHECK.due("the last user is LIVE", x.live(39, 0), 4);
         CHECK.due("without", x.without(0, 0), 1);
         CHECK.due("left 0", x.left(0), 0);
         CHECK.due("left 1", x.left(1), NONE);
